@@ -1,0 +1,45 @@
+/** Pedals in states that many tests begin with. */
+final class Pedals {
+    private Pedals() {
+    }
+
+    /** A loop of so many cells (1 to 24) that plays from the place 0 on, without a note, without slack. */
+    static PedalLayers loop(int cells) {
+        PedalLayers x = new PedalLayers();
+        x.set(PedalLayers.SLACK, 0);
+        x.press();
+        x.pass(cells);
+        if (cells < 24) {
+            x.press();
+        }
+        return x;
+    }
+
+    /** A loop of so many cells with one note in the cell 0, at the place 0. */
+    static PedalLayers loopWith(int cells, int key, int force) {
+        PedalLayers x = new PedalLayers();
+        x.set(PedalLayers.SLACK, 0);
+        x.press();
+        x.hit(key, force);
+        x.pass(cells);
+        if (cells < 24) {
+            x.press();
+        }
+        return x;
+    }
+
+    /** Lays a layer with one note where the loop is, over so many cells. */
+    static void layOver(PedalLayers x, int key, int force, int cells) {
+        x.press();
+        x.hit(key, force);
+        x.pass(cells);
+        x.press();
+    }
+
+    static void write(PedalLayers x, String text) {
+        x.erase();
+        for (int i = 0; i < text.length(); i++) {
+            x.append(text.charAt(i));
+        }
+    }
+}
