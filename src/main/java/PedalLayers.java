@@ -41,7 +41,7 @@ public final class PedalLayers {
     private final OrderReading orders = new OrderReading();
     private final TuneReading tune = new TuneReading();
     private final Halt halt = new Halt();
-    private final Ear ear = new Ear(now);
+    private final Ear ear = new Ear();
     private boolean snapshotTaken;
 
     public PedalLayers() {
@@ -173,7 +173,7 @@ public final class PedalLayers {
         if (!now.isCell(cell) || !isKey(key)) {
             return INVALID_ARGUMENT;
         }
-        ear.listen(now.onLoop, cell);
+        ear.listen(now, now.onLoop, cell);
         return ear.ringOf(key);
     }
 
@@ -181,7 +181,7 @@ public final class PedalLayers {
         if (!now.isCell(cell)) {
             return INVALID_ARGUMENT;
         }
-        ear.listen(now.onLoop, cell);
+        ear.listen(now, now.onLoop, cell);
         switch (what) {
             case 0: return ear.howManyKeys();
             case 1: return ear.sum();
@@ -193,18 +193,18 @@ public final class PedalLayers {
     }
 
     public int loudest() {
-        return now.onLoop == 0 ? NOT_POSSIBLE : ear.loudestCell();
+        return now.onLoop == 0 ? NOT_POSSIBLE : ear.loudestCell(now);
     }
 
     public int buried() {
-        return ear.mostBuriedLayer();
+        return ear.mostBuriedLayer(now);
     }
 
     public int tunes() {
         if (now.onLoop == 0 || pad.firstFault(tune) != NOT_FOUND) {
             return NOT_POSSIBLE;
         }
-        return ear.howOften(pad);
+        return ear.howOften(now, pad);
     }
 
     public int count(int what) {
@@ -234,7 +234,7 @@ public final class PedalLayers {
         if (length <= 0) {
             return 0.0;
         }
-        return (double) ear.sumOfCells(now.onLoop) / (double) length;
+        return (double) ear.sumOfCells(now, now.onLoop) / (double) length;
     }
 
     // ---- bars, what would be; nothing is changed
@@ -299,8 +299,8 @@ public final class PedalLayers {
         }
         switch (what) {
             case 0: return now.loopLength(layers);
-            case 1: return ear.sumOfCells(layers);
-            case 2: return ear.silentCells(layers);
+            case 1: return ear.sumOfCells(now, layers);
+            case 2: return ear.silentCells(now, layers);
             default: return INVALID_ARGUMENT;
         }
     }
@@ -720,19 +720,20 @@ public final class PedalLayers {
             int ended = 0;
             for (int i = 0; i < ticks; i++) {
                 ended += loopPlays() ? moveLoop(step) : 0;
-                if (takeRuns()) {
-                    growTake(step);
+                if (!takeRuns()) {
+                    continue;
+                }
+                take.halves += step;
+                if (take.halves >= longestTake()) {
+                    endTake();
                 }
             }
             return ended;
         }
 
-        private void growTake(int step) {
-            int most = mode == MODE_FIRST_TAKE ? 2 * FIRST_CELLS : 4 * firstLength();
-            take.halves += step;
-            if (take.halves >= most) {
-                endTake();
-            }
+        /** The halves at which a take ends by itself. */
+        private int longestTake() {
+            return mode == MODE_FIRST_TAKE ? 2 * FIRST_CELLS : 4 * firstLength();
         }
 
         /** Answers how many passes ended by the step. */
@@ -804,17 +805,12 @@ public final class PedalLayers {
 
     /** Listens to one cell at a time of a loop of the pedal's first layers. */
     private static final class Ear {
-        private final Pedal pedal;
         private final int[] rings = new int[KEYS];
         private final int[] buriedNotes = new int[MOST_LAYERS];
         private final int[] highestKeys = new int[MOST_CELLS];
         private final int[] tuneKeys = new int[PAD_SIGNS];
 
-        Ear(Pedal pedal) {
-            this.pedal = pedal;
-        }
-
-        void listen(int firstLayers, int cell) {
+        void listen(Pedal pedal, int firstLayers, int cell) {
             for (int key = 0; key < rings.length; key++) {
                 rings[key] = 0;
             }
@@ -883,21 +879,21 @@ public final class PedalLayers {
             return strongest;
         }
 
-        int sumOfCells(int firstLayers) {
+        int sumOfCells(Pedal pedal, int firstLayers) {
             int sum = 0;
             int length = pedal.loopLength(firstLayers);
             for (int cell = 0; cell < length; cell++) {
-                listen(firstLayers, cell);
+                listen(pedal, firstLayers, cell);
                 sum += sum();
             }
             return sum;
         }
 
-        int silentCells(int firstLayers) {
+        int silentCells(Pedal pedal, int firstLayers) {
             int silent = 0;
             int length = pedal.loopLength(firstLayers);
             for (int cell = 0; cell < length; cell++) {
-                listen(firstLayers, cell);
+                listen(pedal, firstLayers, cell);
                 if (sum() == 0) {
                     silent++;
                 }
@@ -905,12 +901,12 @@ public final class PedalLayers {
             return silent;
         }
 
-        int loudestCell() {
+        int loudestCell(Pedal pedal) {
             int loudest = NOT_FOUND;
             int greatest = 0;
             int length = pedal.loopLength(pedal.onLoop);
             for (int cell = 0; cell < length; cell++) {
-                listen(pedal.onLoop, cell);
+                listen(pedal, pedal.onLoop, cell);
                 if (sum() > greatest) {
                     greatest = sum();
                     loudest = cell;
@@ -919,15 +915,15 @@ public final class PedalLayers {
             return loudest;
         }
 
-        int mostBuriedLayer() {
+        int mostBuriedLayer(Pedal pedal) {
             for (int i = 0; i < buriedNotes.length; i++) {
                 buriedNotes[i] = 0;
             }
             int length = pedal.loopLength(pedal.onLoop);
             for (int cell = 0; cell < length; cell++) {
-                listen(pedal.onLoop, cell);
+                listen(pedal, pedal.onLoop, cell);
                 for (int i = 0; i < buriedNotes.length; i++) {
-                    buriedNotes[i] += buriedOf(i, cell);
+                    buriedNotes[i] += buriedOf(pedal, i, cell);
                 }
             }
             int most = 0;
@@ -942,7 +938,7 @@ public final class PedalLayers {
         }
 
         /** The buried notes of a layer in the cell that was listened to. */
-        private int buriedOf(int layerNumber, int cell) {
+        private int buriedOf(Pedal pedal, int layerNumber, int cell) {
             Layer layer = pedal.soundingLayer(layerNumber);
             if (layer == null) {
                 return 0;
@@ -960,11 +956,11 @@ public final class PedalLayers {
         }
 
         /** In how many cells the tune of the pad begins. */
-        int howOften(Pad pad) {
+        int howOften(Pedal pedal, Pad pad) {
             int tuneLength = pad.readTune(tuneKeys);
             int length = Math.min(pedal.loopLength(pedal.onLoop), highestKeys.length);
             for (int cell = 0; cell < length && cell < highestKeys.length; cell++) {
-                listen(pedal.onLoop, cell);
+                listen(pedal, pedal.onLoop, cell);
                 highestKeys[cell] = highestKey();
             }
             int found = 0;

@@ -96,6 +96,10 @@ final class BarPromises {
         due.is("at most 24 cells", x.rounded(24), 16);
         due.is("8 away", x.rounded(8), 16);
         due.is("9 away", x.rounded(7), 7);
+        x.set(PedalLayers.BAR, 9);
+        due.is("27 cells are too many, 18 are within the slack", x.rounded(24), 18);
+        x.set(PedalLayers.BAR, 13);
+        due.is("26 cells are too many, 13 too far away", x.rounded(24), 24);
         x.set(PedalLayers.BAR, 2);
         x.set(PedalLayers.SLACK, 0);
         due.is("no slack", x.rounded(5), 5);

@@ -35,17 +35,63 @@ final class HistoryPromises {
     }
 
     static void promise32UndoOfEveryChange(Due due) {
-        PedalLayers x = Pedals.loopWith(4, 5, 60);
-        Pedals.layOver(x, 6, 10, 5);
-        Pedals.layOver(x, 7, 10, 2);
-        x.peel();
-        x.save();
-        for (int change = 0; change < 10; change++) {
+        for (int change = 0; change < 11; change++) {
+            PedalLayers x = Pedals.loopWith(4, 5, 60);
+            Pedals.layOver(x, 6, 10, 5);
+            Pedals.layOver(x, 7, 10, 2);
+            x.peel();
+            x.save();
+            x.mute(0);
+            x.set(PedalLayers.SLACK, 7);
+            x.pass(3);
             int[] before = look(x);
             due.holds("the change " + change + " is one", change(x, change) >= 0);
-            x.undo();
+            due.is("states", x.undo(), 3);
             sameLook(due, "change " + change, look(x), before);
         }
+    }
+
+    static void promise32UndoOfHits(Due due) {
+        PedalLayers x = Pedals.loop(4);
+        x.pass(3);
+        x.press();
+        x.hit(1, 10);
+        x.pass(1);
+        x.hit(1, 20);
+        x.hit(1, 30);
+        due.is("undo()", x.undo(), 3);
+        due.is("the force before it", x.hit(1, 1), 21);
+        x.undo();
+        x.undo();
+        x.undo();
+        due.is("in the cell of before", x.hit(1, 1), 11);
+        x.press();
+        x.pass(1);
+        x.press();
+        x.undo();
+        due.is("a layer that was laid is a take again", x.count(8), 1);
+        due.is("laid", x.count(15), 1);
+        x.press();
+        due.is("in its place", x.note(1, 3, 1), 11);
+    }
+
+    static void promise32UndoFindsTheTakesBeginning(Due due) {
+        PedalLayers x = Pedals.loop(6);
+        x.pass(4);
+        x.press();
+        x.pass(1);
+        x.stop();
+        x.press();
+        x.pass(1);
+        x.press();
+        x.undo();
+        x.undo();
+        x.undo();
+        x.undo();
+        due.is("a take runs again", x.count(0), 3);
+        x.hit(3, 30);
+        x.press();
+        due.is("from its beginning on", x.note(1, 5, 3), 30);
     }
 
     private static int change(PedalLayers x, int change) {
@@ -59,6 +105,7 @@ final class HistoryPromises {
             case 6: return x.mute(1);
             case 7: return x.speed();
             case 8: return x.set(PedalLayers.FADE, 50);
+            case 9: return x.restore();
             default:
                 Pedals.write(x, "t9xxpt3p");
                 return x.play();

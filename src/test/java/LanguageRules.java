@@ -120,6 +120,13 @@ final class LanguageRules {
         }
     }
 
+    static void rule12RowsAreMadeOnceForAll(Due due) throws IOException {
+        for (String line : withoutComments().split("\n")) {
+            boolean once = line.matches(" +(private final .*|(layers|states)\\[i\\]) = new .*");
+            due.holds("what is made is made once for all, in: " + line, once || !line.matches(".*\\bnew\\b.*"));
+        }
+    }
+
     private static String withoutComments() throws IOException {
         String text = Files.readString(Path.of(program), StandardCharsets.US_ASCII);
         return text.replaceAll("(?s)/\\*.*?\\*/", " ").replaceAll("//[^\n]*", " ").replaceAll("'.'", "' '");

@@ -117,6 +117,34 @@ final class LookPromises {
         due.is("heard(1, 5)", x.heard(1, 5), INVALID);
     }
 
+    static void promise20HeardAtTheEdges(Due due) {
+        PedalLayers x = new PedalLayers();
+        x.press();
+        x.hit(0, 1);
+        x.pass(1);
+        x.speed();
+        x.hit(23, 1);
+        x.pass(2);
+        x.speed();
+        x.press();
+        int[] lowest = {1, 1, 0, 0, 0};
+        int[] highest = {1, 1, 35, 35, 35};
+        for (int what = 0; what < 5; what++) {
+            due.is("the key 0: heard(0, " + what + ")", x.heard(0, what), lowest[what]);
+            due.is("the key 35: heard(1, " + what + ")", x.heard(1, what), highest[what]);
+        }
+        due.is("ring(0, 0)", x.ring(0, 0), 1);
+        due.is("ring(1, 35)", x.ring(1, 35), 1);
+        due.is("loudest()", x.loudest(), 0);
+        due.is("layer(0, 2)", x.layer(0, 2), 2);
+        due.is("layer(0, 3) of the key 0 alone", Pedals.loopWith(2, 0, 9).layer(0, 3), 9);
+        Pedals.write(x, "0,35");
+        due.is("tunes()", x.tunes(), 1);
+        x.speed();
+        due.is("the lowest key at half speed", x.heard(0, 0), 0);
+        due.is("the highest key at half speed", x.heard(1, 2), 23);
+    }
+
     static void promise21Loudest(Due due) {
         PedalLayers x = new PedalLayers();
         due.is("loudest() when empty", x.loudest(), NOT_POSSIBLE);
@@ -159,6 +187,25 @@ final class LookPromises {
         due.is("heard", x.buried(), 0);
         x.speed();
         due.is("not heard at half speed", x.buried(), NOT_FOUND);
+    }
+
+    static void promise22BuriedAtTheEdges(Due due) {
+        PedalLayers x = Pedals.loopWith(2, 0, 1);
+        Pedals.layOver(x, 0, 2, 2);
+        due.is("the key 0, the force 1", x.buried(), 0);
+        x = Pedals.loop(2);
+        Pedals.layOver(x, 0, 2, 2);
+        due.is("no note is no buried note", x.buried(), NOT_FOUND);
+        x = Pedals.loop(1);
+        for (int layer = 1; layer < 5; layer++) {
+            Pedals.layOver(x, 9, 90, 1);
+        }
+        Pedals.layOver(x, 9, 89, 1);
+        due.is("all but the first are buried", x.buried(), 1);
+        x.mute(1);
+        x.mute(2);
+        x.mute(3);
+        due.is("the lesser of two nearly alike", x.buried(), 5);
     }
 
     static void promise22BuriedInAllCells(Due due) {

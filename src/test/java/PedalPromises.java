@@ -109,6 +109,51 @@ final class PedalPromises {
         due.is("place", x.count(5), 10);
     }
 
+    static void promise02PressLaysAFreshLayer(Due due) {
+        PedalLayers x = Pedals.loop(2);
+        Pedals.layOver(x, 1, 10, 3);
+        x.pass(9);
+        x.mute(1);
+        x.peel();
+        x.press();
+        x.pass(1);
+        due.is("the first take's note is no note of the second", x.count(8), 0);
+        x.press();
+        due.is("not muted", x.layer(1, 4), 0);
+        due.is("without passes", x.layer(1, 5), 0);
+        due.is("without notes", x.layer(1, 1), 0);
+        due.is("of the first length", x.layer(1, 0), 2);
+    }
+
+    static void promise02PressAsLongAsCanBe(Due due) {
+        PedalLayers x = Pedals.loopWith(24, 23, 99);
+        x.press();
+        x.hit(0, 1);
+        x.pass(47);
+        x.speed();
+        x.hit(23, 99);
+        x.pass(2);
+        due.is("mode", x.count(0), 2);
+        due.is("length", x.count(1), 48);
+        due.is("first length", x.count(2), 24);
+        due.is("first cell, lowest key", x.note(1, 0, 0), 1);
+        due.is("last cell, highest key", x.note(1, 47, 35), 99);
+        due.is("notes", x.layer(1, 1), 2);
+        due.is("what is heard in the last cell", x.heard(47, 2), 23);
+        x.press();
+        x.pass(1);
+        x.press();
+        due.is("an empty take", x.layer(2, 1), 0);
+        due.is("the key 0 and the force 1 fade, too", fadedByOne(x), 0);
+    }
+
+    private static int fadedByOne(PedalLayers x) {
+        x.speed();
+        x.set(PedalLayers.FADE, 1);
+        x.pass(49);
+        return x.note(1, 0, 0) + x.note(1, 47, 35) - 98;
+    }
+
     static void promise02PressFoldsAtMost99(Due due) {
         PedalLayers x = Pedals.loop(4);
         x.pass(2);

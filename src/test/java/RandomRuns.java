@@ -39,7 +39,7 @@ final class RandomRuns {
         pedal = new PedalLayers();
         model = new PlainModel();
         calls = new ArrayList<>();
-        keys = upTo(3) == 0 ? 24 : 4;
+        keys = upTo(3) == 0 ? 24 : 3;
         cells = upTo(2) == 0 ? 3 : 12;
         boolean same = true;
         while (same && calls.size() < CALLS) {
@@ -58,17 +58,36 @@ final class RandomRuns {
     }
 
     private boolean step() throws ReflectiveOperationException {
-        int kind = upTo(20);
-        if (kind < 11) {
+        int kind = upTo(60);
+        if (kind < 25) {
             return same(CHANGES[upTo(CHANGES.length)]);
         }
-        if (kind < 18) {
+        if (kind < 54) {
             return same(LOOKS[upTo(LOOKS.length)]);
         }
-        if (kind == 18 && upTo(4) == 0) {
+        if (kind < 57) {
+            return layAndLook();
+        }
+        if (kind == 57 && upTo(4) == 0) {
             return same("empty");
         }
-        return kind == 18 || writeAndRead();
+        return kind == 57 || writeAndRead();
+    }
+
+    /** A take with some notes, whatever the mode is, and a look at what was laid. */
+    private boolean layAndLook() throws ReflectiveOperationException {
+        boolean same = same("press");
+        for (int i = upTo(6); i >= 0 && same; i--) {
+            same = same("hit") && (upTo(2) == 0 || same("pass", 1 + upTo(3)));
+        }
+        same = same && same("pass", 1 + upTo(cells)) && same("press") && same("buried") && same("loudest");
+        for (int what = 0; what < 5 && same; what++) {
+            same = same("heard", upTo(cells), what);
+        }
+        for (int what = 0; what < 3 && same; what++) {
+            same = same("ifPeeled", 1 + upTo(3), what) && same("layer", upTo(3), 1 + upTo(3));
+        }
+        return same;
     }
 
     private boolean writeAndRead() throws ReflectiveOperationException {
@@ -107,7 +126,7 @@ final class RandomRuns {
         StringBuilder text = new StringBuilder();
         int many = 1 + upTo(3);
         for (int i = 0; i < many; i++) {
-            text.append(i == 0 ? "" : ",").append(upTo(6) == 0 ? upTo(36) : upTo(keys));
+            text.append(i == 0 ? "" : ",").append(upTo(6) == 0 ? upTo(36) : anyKey());
         }
         return text.toString();
     }
@@ -121,8 +140,8 @@ final class RandomRuns {
             case "fault": return same(name, oddOr(upTo(2)));
             case "why": return same(name, oddOr(upTo(3)));
             case "layer": return same(name, oddOr(upTo(4)), oddOr(upTo(6)));
-            case "note": return same(name, oddOr(upTo(4)), oddOr(upTo(cells)), oddOr(upTo(36)));
-            case "ring": return same(name, oddOr(upTo(cells)), oddOr(upTo(36)));
+            case "note": return same(name, oddOr(upTo(4)), oddOr(upTo(cells)), oddOr(anyKey()));
+            case "ring": return same(name, oddOr(upTo(cells)), oddOr(anyKey()));
             case "heard": return same(name, oddOr(upTo(cells)), oddOr(upTo(5)));
             case "count": return same(name, oddOr(upTo(16)));
             case "drift": return same(name, oddOr(upTo(100)));
@@ -130,6 +149,10 @@ final class RandomRuns {
             case "ifPeeled": return same(name, oddOr(1 + upTo(3)), oddOr(upTo(3)));
             default: return same(name, new int[0]);
         }
+    }
+
+    private int anyKey() {
+        return upTo(3) == 0 ? upTo(36) : upTo(keys) + 12 * upTo(2);
     }
 
     private boolean sameSet() throws ReflectiveOperationException {
@@ -140,7 +163,7 @@ final class RandomRuns {
 
     /** Now and then an argument from anywhere. */
     private int oddOr(int value) {
-        if (upTo(25) != 0) {
+        if (upTo(50) != 0) {
             return value;
         }
         int[] odd = {-1, 0, 1, 5, 6, 16, 24, 25, 36, 48, 99, 100, 101, Integer.MAX_VALUE, Integer.MIN_VALUE, upTo(60)};
