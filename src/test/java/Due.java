@@ -19,6 +19,21 @@ final class Due {
         }
     }
 
+    void same(String call, String got, String want) {
+        asked++;
+        if (!got.equals(want)) {
+            wrong++;
+            System.out.println(call + " answered " + got + ", due is " + want);
+        }
+    }
+
+    /** A sentence of the document, and runs of calls on new objects that it decides. */
+    void says(String sentence, String... runs) {
+        for (String run : runs) {
+            Calls.of(this, sentence, run);
+        }
+    }
+
     void holds(String what, boolean so) {
         asked++;
         if (!so) {

@@ -62,6 +62,26 @@ final class LanguageRules {
         return name.append(')').toString();
     }
 
+    /** The calls stand in the document's order, under the headings that its interface has. */
+    static void rule01FaceInItsOrder(Due due) throws IOException {
+        String[] headings = {"the pedal", "texts", "looks; nothing is changed",
+            "bars, what would be; nothing is changed", "history, snapshot"};
+        String[] firstCalls = {"press", "append", "layer", "barIn", "undo"};
+        String text = Files.readString(Path.of(program), StandardCharsets.US_ASCII);
+        int at = 0;
+        for (String call : FACE.split(" ")) {
+            String name = call.substring(0, call.indexOf('('));
+            for (int i = 0; i < headings.length; i++) {
+                if (name.equals(firstCalls[i])) {
+                    at = text.indexOf("    // ---- " + headings[i] + "\n", Math.max(at, 0));
+                    due.holds("the heading " + headings[i] + " stands in its place", at >= 0);
+                }
+            }
+            at = text.indexOf("    public " + (name.equals("loudness") ? "double " : "int ") + name + "(", Math.max(at, 0));
+            due.holds(name + " stands in its place", at >= 0);
+        }
+    }
+
     static void rule01NoOtherMethodBearsAName(Due due) {
         String names = " " + FACE.replaceAll("\\([^)]*\\)", "") + " ";
         for (Method method : PedalLayers.class.getDeclaredMethods()) {

@@ -36,6 +36,21 @@ final class Pedals {
         x.press();
     }
 
+    /** The calls for a loop of so many cells (1 to 23) without a note. */
+    static String loopCalls(int cells) {
+        return "set(1,0) press()=1 pass(" + cells + ")=0 press()=2 ";
+    }
+
+    /** The calls for a loop of so many cells (1 to 23) with one note in the cell 0. */
+    static String loopCalls(int cells, int key, int force) {
+        return "set(1,0) press()=1 hit(" + key + "," + force + ") pass(" + cells + ")=0 press()=2 ";
+    }
+
+    /** The calls for a take over a loop: one note where the loop is, then so many ticks. */
+    static String overCalls(int key, int force, int ticks) {
+        return "press()=3 hit(" + key + "," + force + ") pass(" + ticks + ") press()=2 ";
+    }
+
     static void write(PedalLayers x, String text) {
         x.erase();
         for (int i = 0; i < text.length(); i++) {
