@@ -29,10 +29,14 @@ final class Calls {
             String got = run.answer(call.substring(0, end));
             if (end < call.length()) {
                 String want = call.substring(end + 1);
-                due.same(sentence + " [" + calls + "]: " + call.substring(0, end), got, number(want));
+                due.same(sentence + " [" + inShort(calls) + "]: " + call.substring(0, end), got, number(want));
             }
         }
         return run;
+    }
+
+    private static String inShort(String calls) {
+        return calls.length() < 400 ? calls : calls.substring(0, 200) + " .. " + calls.substring(calls.length() - 200);
     }
 
     /** A new object behind these calls. */

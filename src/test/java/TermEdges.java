@@ -1,5 +1,12 @@
 /** The boundary sentences of the document's section "Terms", but for texts, changes and errors. */
 final class TermEdges {
+    static void termAllCallsOfAnObject(Due due) {
+        due.says("An object is used for at most 512 calls after it has been made;",
+                Pedals.loopCalls(1, 5, 60) + "set(0,7) set(2,0) " + "pass(99)=99 ".repeat(500)
+                        + "count(6)=49500 layer(0,5)=49500 barIn()=8 ring(0,5)=60 count(14)=4",
+                "write(" + "p".repeat(60) + ") " + "append(112)=LIMIT_REACHED ".repeat(450) + "count(13)=60 erase()=60");
+    }
+
     static void termDivisions(Due due) {
         due.says("Divisions are rounded down.",
                 "speed() press() pass(3) hit(0,7) pass(1) press()=2 note(0,1,12)=7 note(0,0,12)=0",
