@@ -2,14 +2,14 @@ import java.lang.reflect.Method;
 import java.util.Arrays;
 import java.util.Comparator;
 
-/** Runs every test method of the project: those whose names begin with "promise", "term", "rule" or "runs". */
+/** Runs every test method of the project: those whose names begin with "promise", "term", "rule", "readme" or "runs". */
 public final class AllTests {
     private static final int PROMISES = 34;
     private static final Class<?>[] TESTS = {
         PedalPromises.class, TextPromises.class, LookPromises.class, BarPromises.class, HistoryPromises.class,
         TermEdges.class, PedalEdges.class, TextEdges.class, LookEdges.class, BarEdges.class, HistoryEdges.class,
         RefusedCalls.class,
-        LanguageRules.class, RandomRuns.class,
+        LanguageRules.class, ReadmeTells.class, RandomRuns.class,
     };
 
     public static void main(String[] args) throws Exception {
@@ -22,7 +22,7 @@ public final class AllTests {
             Method[] methods = tests.getDeclaredMethods();
             Arrays.sort(methods, Comparator.comparing(Method::getName));
             for (Method method : methods) {
-                if (!method.getName().matches("(promise|term|rule|runs).*")) {
+                if (!method.getName().matches("(promise|term|rule|readme|runs).*")) {
                     continue;
                 }
                 if (passes(method)) {

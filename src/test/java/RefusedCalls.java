@@ -9,7 +9,7 @@ final class RefusedCalls {
     private static final int[] ODD = {Integer.MIN_VALUE, -1, 0, 1, 2, 5, 6, 23, 24, 36, 99, 100, 101, Integer.MAX_VALUE};
 
     /** One state for each mode and for what else a call may be refused by; most with a history and a snapshot. */
-    private static final String[] STATES = {
+    static final String[] STATES = {
         "",
         "write(" + "p".repeat(60) + ")",
         "speed() write(ph)",
@@ -113,7 +113,7 @@ final class RefusedCalls {
     }
 
     /** Every call of the face that can be refused, with arguments from far below to far above their ranges. */
-    private static List<String> calls() {
+    static List<String> calls() {
         List<String> calls = new ArrayList<>(List.of("press()", "stop()", "empty()", "peel()", "back()", "play()",
                 "restore()", "loudest()", "buried()", "tunes()", "barIn()", "meets()", "silentIn()", "undo()"));
         for (int odd : ODD) {
