@@ -4,6 +4,9 @@ final class HistoryEdges {
     private static final String READY = "set(1,0) press() hit(5,60) pass(2) press()=2 press() pass(1) press()=2 press()"
             + " pass(1) press()=2 peel()=2 save()=2 speed() undo()=3 count(14)=3 ";
 
+    /** A take over a loop of 24 cells, with notes in the first and in the last of its 48 cells. */
+    private static final String LONGEST = "press() pass(24) press()=3 hit(5,60)=60 pass(47)=1 hit(7,7)=7 ";
+
     static void termChanges(Due due) {
         due.says("The changes are the calls of press, stop, empty, hit, pass, peel, back, mute, speed, set, play and restore"
                         + " that return no error.",
@@ -65,6 +68,11 @@ final class HistoryEdges {
                 "undo()=NOT_POSSIBLE count(14)=0", "press() undo()=0 count(14)=0 count(0)=0 undo()=NOT_POSSIBLE",
                 "speed() speed() speed() speed() speed() undo()=3 undo()=2 undo()=1 undo()=0 undo()=NOT_POSSIBLE count(9)=1",
                 "undo()=NOT_POSSIBLE speed()=1 undo()=0 count(9)=0");
+        due.says("as it was before it: a take over the longest loop, and its layer, too",
+                LONGEST + "pass(1)=1 count(0)=2 layer(1,2)=67 undo()=3 count(0)=3 count(7)=94 count(8)=2 hit(7,1)=8"
+                        + " press()=2 note(1,47,7)=8 note(1,0,5)=60",
+                LONGEST + "pass(1) stop()=4 undo()=3 undo()=2 hit(7,1)=8 press()=2 empty()=2 undo() note(1,47,7)=8"
+                        + " note(1,0,5)=60 layer(1,0)=48");
         due.says("undo() is no change, and cannot be undone itself",
                 "set(0,2) set(0,3) undo()=1 count(10)=2 undo()=0 count(10)=8 undo()=NOT_POSSIBLE count(10)=8");
         due.says("everything but the pad, the snapshot and why() is as it was before it.",
@@ -99,6 +107,9 @@ final class HistoryEdges {
                         + " note(0,0,5)=60 note(0,1,5)=INVALID_ARGUMENT",
                 Pedals.loopCalls(2, 5, 60) + Pedals.overCalls(6, 50, 1) + "peel() save() back() mute(1) empty() restore()=2"
                         + " count(3)=1 count(4)=1 back()=2 layer(1,2)=50 layer(1,4)=0 count(15)=2");
+        due.says("Restores the snapshot: a take over the longest loop, and its layer, too",
+                LONGEST + "save()=3 empty()=1 restore()=3 count(7)=94 count(8)=2 hit(7,1)=8 press()=2 note(1,47,7)=8"
+                        + " note(1,0,5)=60 save()=2 empty()=2 restore()=2 note(1,47,7)=8 layer(1,1)=2");
         due.says("It is a change.", "speed() save() undo()=0 restore()=0 count(9)=1 count(14)=1 undo()=0 count(9)=0");
     }
 }

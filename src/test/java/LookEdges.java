@@ -140,6 +140,14 @@ final class LookEdges {
                         + Pedals.overCalls(6, 9, 1) + Pedals.overCalls(7, 1, 1) + Pedals.overCalls(7, 2, 1) + "buried()=4",
                 Pedals.loopCalls(1, 5, 99) + Pedals.overCalls(6, 9, 1) + Pedals.overCalls(7, 9, 1)
                         + Pedals.overCalls(8, 9, 1) + Pedals.overCalls(9, 9, 1) + Pedals.overCalls(9, 8, 1) + "buried()=5");
+        due.says("counted in each cell of the loop once",
+                // The layer 0 has one in the cell 1, the layer 1 one in the cell 0.
+                "set(1,0) press() hit(6,60) pass(1) hit(7,10) pass(1) press()=2 press() hit(6,10) pass(1) hit(7,60) pass(1)"
+                        + " press()=2 buried()=0",
+                // The one note of the layer 0 is buried in both cells; the layer 2 has three buried notes.
+                Pedals.loopCalls(1, 5, 10) + Pedals.overCalls(5, 60, 1) + "press() hit(6,10) hit(7,10) pass(1) hit(6,10)"
+                        + " pass(1) count(0)=2 press() hit(6,60) hit(7,60) pass(1) hit(6,60) pass(1) count(0)=2"
+                        + " count(1)=2 buried()=2");
         due.says("counted in all cells of the loop",
                 // The note of the layer 1 is buried in both cells, that of the layer 0 in the second one alone.
                 Pedals.loopCalls(1, 6, 10) + Pedals.overCalls(5, 10, 1)
